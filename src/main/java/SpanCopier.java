@@ -25,14 +25,14 @@ public final class SpanCopier {
     private final Tape tape = new Tape();
     private final Book lines = new Book();
     private final World world = new World();
-    private final World[] kept = new World[MOST_KEPT];
-    private World looked = new World();
-    private int oldest;
-    private int undoable;
     private final World[] images = new World[2];
+    private final World[] kept = new World[MOST_KEPT];
     private final int[] ends = new int[3];
     private final int[] judged = new int[4];
+    private World looked = new World();
     private World spare;
+    private int oldest;
+    private int undoable;
     private int faultKind;
 
     public SpanCopier() {
@@ -290,7 +290,8 @@ public final class SpanCopier {
         world.seed = seed;
         int passed = 0;
         while (passed < n && world.tick < TICKS_IN_ALL) {
-            world.passDrawnTick();
+            world.drawWhatHappens();
+            world.passTick();
             passed++;
         }
         return keptIfAbove(passed);
@@ -317,7 +318,8 @@ public final class SpanCopier {
             if (trial.bothDone() || trial.oneFailed()) {
                 break;
             }
-            trial.passDrawnTick();
+            trial.drawWhatHappens();
+            trial.passTick();
         }
         return trial.bothDone();
     }
@@ -371,13 +373,13 @@ public final class SpanCopier {
     }
 
     public int said(int k) {
-        Sentence sentence = world.sentence;
-        if (sentence == null || k < NONE) {
+        Sentence asked = world.sentence;
+        if (asked == null || k < NONE) {
             return NONE;
         }
         int found = 0;
         for (int u = 0; u < world.link.size; u++) {
-            if (sentence.holds(world.link, u, world.tick)) {
+            if (asked.holds(world.link, u, world.tick)) {
                 if (found == k) {
                     return u;
                 }
@@ -391,12 +393,12 @@ public final class SpanCopier {
         if (k < 0 || k >= images.length) {
             return false;
         }
-        World kept = images[k];
-        if (kept == null) {
-            kept = new World();
-            images[k] = kept;
+        World copy = images[k];
+        if (copy == null) {
+            copy = new World();
+            images[k] = copy;
         }
-        kept.copyFrom(world);
+        copy.copyFrom(world);
         return true;
     }
 
@@ -404,11 +406,11 @@ public final class SpanCopier {
         if (k < 0 || k >= images.length) {
             return false;
         }
-        World kept = images[k];
-        if (kept == null) {
+        World copy = images[k];
+        if (copy == null) {
             return false;
         }
-        world.copyFrom(kept);
+        world.copyFrom(copy);
         undoable = 0;
         return true;
     }
@@ -1042,10 +1044,16 @@ public final class SpanCopier {
             return place;
         }
 
+        private boolean startsSpan(int i) {
+            return has(i) && !has(i - 1);
+        }
+
         private int countSpans() {
             int spans = 0;
-            for (int i = nextFrom(0); i < FILE_BYTES; i = nextFrom(endOf(i))) {
-                spans++;
+            for (int i = 0; i < FILE_BYTES; i++) {
+                if (startsSpan(i)) {
+                    spans++;
+                }
             }
             return spans;
         }
@@ -1055,12 +1063,15 @@ public final class SpanCopier {
             if (k < 0 || what < 0 || what > 1) {
                 return NONE;
             }
-            int span = 0;
-            for (int i = nextFrom(0); i < FILE_BYTES; i = nextFrom(endOf(i))) {
-                if (span == k) {
+            int ahead = 0;
+            for (int i = 0; i < FILE_BYTES; i++) {
+                if (!startsSpan(i)) {
+                    continue;
+                }
+                if (ahead == k) {
                     return what == 0 ? i : endOf(i);
                 }
-                span++;
+                ahead++;
             }
             return NONE;
         }
@@ -1140,12 +1151,12 @@ public final class SpanCopier {
         /** A NAK of the SPANS that lie in places from one to ahead of another one. */
         private void sendNak(Places lacks, int from, int to) {
             int spans = 0;
-            int row = size * WIDTH + SPANS;
-            for (int i = lacks.nextFrom(from); i < to && spans < MOST_SPANS && size < MOST;) {
-                int behind = Math.min(lacks.endOf(i), to);
-                rows[row + spans] = i << 8 | behind;
+            int start = lacks.nextFrom(from);
+            while (size < MOST && spans < MOST_SPANS && start < to) {
+                int behind = Math.min(lacks.endOf(start), to);
+                rows[size * WIDTH + SPANS + spans] = start << 8 | behind;
                 spans++;
-                i = lacks.nextFrom(behind);
+                start = lacks.nextFrom(behind);
             }
             send(NAK, spans, 0);
         }
@@ -1721,11 +1732,7 @@ public final class SpanCopier {
             }
         }
 
-        private void passDrawnTick() {
-            drawWhatHappens();
-            passTick();
-        }
-
+        /** What a DRAWN TICK has ahead of the TICK itself. */
         private void drawWhatHappens() {
             int what = draw(12);
             if (what == 4) {
