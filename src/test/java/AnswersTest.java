@@ -16,6 +16,7 @@ public final class AnswersTest {
         drawn();
         drawnByHand();
         odds();
+        lastTicks();
         book();
         toldWhy();
         said();
@@ -400,6 +401,46 @@ public final class AnswersTest {
         x.ticks(60);
         Check.now(x, "1=4 2=4");
         Check.is("all are", x.odds(20, 7), 20);
+        x = Check.with("chunk 1;wait 30;tries 9;", 200);
+        Check.is("odds() of one that is DONE behind 300", x.odds(1, 11559), 1);
+        Check.is("odds() of one that is DONE behind 301", x.odds(1, 2056), 0);
+    }
+
+    /** Kept going by PROMPTS up to TICK 1994, and asked for the last time in a TICK so that one more is wanted. */
+    private static SpanCopier nearTheEnd(int rest) {
+        SpanCopier x = Check.with("delay 1;wait 60;tries 9;policy asked;", 1);
+        x.ticks(1);
+        x.lose(0);
+        x.ticks(3);
+        for (int i = 0; i < 33; i++) {
+            x.prompt();
+            x.ticks(3);
+            x.lose(0);
+            x.ticks(57);
+        }
+        x.ticks(rest);
+        x.prompt();
+        Check.now(x, "1=3 2=1 3=1");
+        return x;
+    }
+
+    private static void lastTicks() {
+        Check.promise(25);
+        SpanCopier x = nearTheEnd(10);
+        Check.is("over()", x.over(), 7);
+        Check.is("overAs(1)", x.overAs(1), 4);
+        Check.promise(28);
+        Check.is("odds() where TICKS end", x.odds(20, 100), 0);
+        Check.promise(7);
+        Check.is("ticks(60)", x.ticks(60), 6);
+        Check.now(x, "0=2000 1=4 2=3 3=1");
+        Check.promise(25);
+        Check.is("over() at 2000", x.over(), 1);
+        Check.promise(28);
+        Check.is("odds() at 2000", x.odds(20, 100), 0);
+        x = nearTheEnd(9);
+        Check.is("over()", x.over(), 7);
+        Check.is("odds() in time", x.odds(20, 100) > 0, true);
     }
 
     /** The seed behind the draws of one TICK. */
