@@ -308,6 +308,7 @@ public final class CallEdgesTest {
         for (int k : NO_SUCH) {
             Check.refused(x, "lose(" + k + ")", () -> x.lose(k), -1);
         }
+        Check.says("To LOSE UNIT k (from 0, as they were SENT): it is not under way any more.");
         Check.is("the last", x.lose(2), 0);
         Check.is("the last again", x.lose(2), -1);
         Check.unit(x, 1, 0, 0, 1, 12, 4, 0);
@@ -330,6 +331,7 @@ public final class CallEdgesTest {
         x.spoil(1);
         Check.is("one LATE and SPOILT", x.twice(1), 0);
         Check.unit(x, 4, 0, 0, 8, 12, 4, 1);
+        Check.says("It is there TWICE: 0, or why not; NONE: no such one.");
         for (int i = x.now(3); i < 40; i++) {
             Check.is("twice(0) at " + i, x.twice(0), 0);
         }
@@ -369,6 +371,7 @@ public final class CallEdgesTest {
         for (int n : new int[] {0, -1, 61, MIN, MAX}) {
             Check.refused(x, "late(0, " + n + ")", () -> x.late(0, n), -1);
         }
+        Check.says("To make it LATE by n: it comes n TICKS later.");
         Check.is("late(2, 1)", x.late(2, 1), 0);
         Check.unit(x, 2, 6, 0, 3);
         Check.is("late(0, 60)", x.late(0, 60), 0);

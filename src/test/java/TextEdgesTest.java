@@ -24,6 +24,7 @@ public final class TextEdgesTest {
         policies();
         hasOnce();
         acts();
+        toOnceOrNot();
         names();
         tenNames();
         sixActs();
@@ -36,6 +37,7 @@ public final class TextEdgesTest {
         twentyOnes();
         eightWithin();
         grammarOfSentences();
+        faultKinds();
         firstAlongTheText();
         ofOneTokenTheLeast();
         theEnd();
@@ -356,6 +358,23 @@ public final class TextEdgesTest {
         orderFault("act copy a b c;", 1, 13);
     }
 
+    private static void toOnceOrNot() {
+        Check.says("'to' NAME (none without)");
+        SpanCopier x = Check.with("delay 1;wait 60;act make a;", 1);
+        x.ticks(20);
+        Check.is("store() without", x.store(), 1);
+        x = Check.with("delay 1;wait 60;to b;act make a;", 1);
+        x.ticks(20);
+        Check.is("store() with", x.store(), 3);
+        Check.order(x, "delay 1;wait 60;");
+        Check.file(x, 1);
+        x.ticks(20);
+        Check.is("store() of another ORDER without", x.store(), 0);
+        orderFault("to;", 1, 2);
+        orderFault("to 1;", 1, 3);
+        orderFault("to a b;", 1, 5);
+    }
+
     private static void names() {
         Check.says("NAME: a WORD, none of those told here, in a BOOK or a SENTENCE");
         for (String word : TOLD) {
@@ -562,6 +581,36 @@ public final class TextEdgesTest {
         sentenceFault("chunk", 1, 0);
         sentenceFault("tick", 1, 0);
         sentenceFault("1", 1, 0);
+    }
+
+    private static void faultKinds() {
+        Check.says("1 no TOKEN, or one that can't come (at it");
+        orderFault("chunk 8; ?", 1, 9);
+        orderFault("chunk 8; 8", 1, 9);
+        orderFault("chunk 8 \n 8;", 1, 10);
+        bookFault("tick 1; crash crash;", 1, 14);
+        sentenceFault("data and ?", 1, 9);
+        sentenceFault("data and ;", 1, 9);
+        Check.says("2 a NUMBER that is not as told (at it)");
+        orderFault("chunk \n 33;", 2, 8);
+        orderFault("chunk 33", 2, 6);
+        orderFault("chunk 33?", 2, 6);
+        bookFault("late 39  61;", 2, 9);
+        bookFault("late  40 61;", 2, 6);
+        Check.says("3 one of those told once told again (at the WORD)");
+        orderFault("chunk 8; chunk", 3, 9);
+        orderFault("to a;has b;\nto", 3, 12);
+        Check.says("a NAME of 'has' told so again");
+        orderFault("has abc;has  abc", 3, 13);
+        Check.says("the second of two NAMES that are alike (at it)");
+        orderFault("act move abc  abc", 3, 14);
+        order("act move abc ab;act copy ab abc;", 2);
+        Check.says("-1 less the place of a FAULT: it stays.");
+        SpanCopier x = busy();
+        Check.is("a FAULT at 0", Check.sentence(x, ";"), -1);
+        Check.is("said(-1)", x.said(-1), 2);
+        Check.says("-2 less the place of a FAULT");
+        Check.is("a FAULT at 0", Check.book(x, "data;", 0), -2);
     }
 
     private static void firstAlongTheText() {

@@ -42,7 +42,9 @@ public final class TickEdgesTest {
         sameSum();
         triesOfNak();
         actingAtOnce();
+        toOnce();
         sixActs();
+        notTried();
         actsOnTheStore();
         triesOfFin();
         saves();
@@ -690,6 +692,7 @@ public final class TickEdgesTest {
         x.ticks(1);
         x.lose(0);
         x.ticks(3);
+        Check.says("If it is AWAITING: PATIENCE is 1 less; at 0 it is FAILED.");
         // The first ACK came in TICK 3, another one comes in TICK 4.
         Check.now(x, "0=4 1=3 3=1");
         x.image(0);
@@ -909,6 +912,75 @@ public final class TickEdgesTest {
         Check.now(w, "2=2 8=-1");
         w.ticks(1);
         Check.now(w, "2=3 8=0");
+    }
+
+    /** SAVED behind TICKS 2 and 5: each CRASH goes back to ACTING, and nothing is done again. */
+    private static void toOnce() {
+        Check.says("first, once (the JOURNAL tells that it was done), the NAME that 'to' tells is in the STORE, if one is"
+                + " told");
+        SpanCopier x = Check.with("delay 1;wait 60;save 3;to a;act drop a;act make b;", 1);
+        x.ticks(3);
+        int[] stores = {1, 0, 2, 2, 2};
+        for (int i = 0; i < stores.length; i++) {
+            Check.is("crash() " + i, x.crash(), 0);
+            Check.now(x, "2=2");
+            x.ticks(1);
+            Check.is("store() " + i, x.store(), stores[i]);
+            Check.is("the TAKER " + i, x.now(2), i < 3 ? 2 : 3);
+        }
+        Check.is("journal(0)", x.journal(0), 0);
+        Check.is("journal(1)", x.journal(1), 0);
+        // A TAKER that knows no EOF any more is told it once more: it is ACTING again, with what is written.
+        SpanCopier y = Check.with("delay 1;wait 6;tries 9;save 2;to a;act drop a;act make b;", 1);
+        y.ticks(2);
+        y.ticks(1);
+        y.lose(0);
+        Check.now(y, "0=3 2=2 1=2");
+        y.crash();
+        Check.now(y, "2=1 9=0 6=1");
+        y.ticks(5);
+        Check.now(y, "0=8 2=1 1=2 3=1");
+        Check.is("store()", y.store(), 0);
+        y.ticks(1);
+        Check.now(y, "0=9 2=2");
+        y.ticks(1);
+        Check.is("store()", y.store(), 1);
+        // Back to IDLE behind 'to' and the first ACT: the whole FILE goes once more, then the second ACT alone.
+        SpanCopier z = Check.with("delay 1;wait 6;tries 9;save 60;to a;act drop a;act make b;", 1);
+        z.ticks(3);
+        z.lose(0);
+        z.ticks(2);
+        Check.is("journal(0)", z.journal(0), 0);
+        z.crash();
+        Check.now(z, "0=5 1=2 2=0");
+        z.ticks(6);
+        Check.now(z, "0=11 2=2");
+        Check.is("store()", z.store(), 0);
+        z.ticks(1);
+        Check.is("store()", z.store(), 2);
+        Check.is("journal(1)", z.journal(1), 0);
+        z.ticks(1);
+        Check.now(z, "2=3 8=0");
+    }
+
+    private static void notTried() {
+        Check.says("0 it was done; 1 it could not be; 2 it was not tried (one ahead of it went 1 or 2)");
+        for (int bad = 0; bad < 6; bad++) {
+            StringBuilder order = new StringBuilder("delay 1;wait 60;has z;");
+            for (int i = 0; i < 6; i++) {
+                order.append("act make ").append(i == bad ? 'z' : (char) ('a' + i)).append(';');
+            }
+            SpanCopier x = Check.with(order.toString(), 1);
+            x.ticks(9);
+            int store = 1;
+            for (int i = 0; i < 6; i++) {
+                Check.is("journal(" + i + ") by " + bad, x.journal(i), i < bad ? 0 : i == bad ? 1 : 2);
+                store |= i < bad ? 2 << i : 0;
+            }
+            Check.is("store() by " + bad, x.store(), store);
+            x.ticks(1);
+            Check.now(x, "2=3 8=0");
+        }
     }
 
     private static void sixActs() {
